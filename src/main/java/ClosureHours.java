@@ -556,7 +556,7 @@ public final class ClosureHours {
             weights = new long[MOST_WORKS][MOST_HOURS];
             order = new int[MOST_WORKS][MOST_HOURS];
             offered = new int[MOST_WORKS];
-            left = new long[MOST_WORKS + 1][MOST_WORKS];
+            left = new long[MOST_WORKS][MOST_WORKS];
             trial = new int[MOST_WORKS];
             best = new int[MOST_WORKS];
         }

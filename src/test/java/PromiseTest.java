@@ -25,6 +25,8 @@ public final class PromiseTest {
         drop();
         may();
         allPlacesBest();
+        allBreaksTies();
+        allAtTheLastHour();
         allKeepsFixed();
         allRefuses();
         lateMovesFewest();
@@ -484,6 +486,48 @@ public final class PromiseTest {
         due.is("work 3", y.work(5, 0), 3);
         due.is("places what was not placed", y.all(), 0);
         starts("places what was not placed", y, 0, 2, 4, 0);
+    }
+
+    /** Only the hours that are named are left to a work. */
+    private static void only(ClosureHours x, int work, int... hours) {
+        for (int h = 0; h < x.count(0); h++) {
+            x.event(work, h, true);
+        }
+        for (int h : hours) {
+            x.event(work, h, false);
+        }
+    }
+
+    private static void allBreaksTies() {
+        for (int w = 0; w < 3; w++) {
+            ClosureHours x = new ClosureHours(8);
+            for (int i = 0; i < 4; i++) {
+                x.work(1, 0);
+            }
+            only(x, w, 1, 2);
+            only(x, w + 1, 1, 5);
+            x.near(w, w + 1, true);
+            due.is("like plans", x.all(), 0);
+            due.is("work " + w + " begins first, though the next begins late", x.start(w), 1);
+            due.is("so the next is there", x.start(w + 1), 5);
+        }
+    }
+
+    private static void allAtTheLastHour() {
+        ClosureHours x = new ClosureHours(36);
+        for (int w = 0; w < 4; w++) {
+            x.work(1, 0);
+            only(x, w, 35);
+        }
+        due.is("all in the last hour, without delay", x.all(), 0);
+        starts("all in the last hour", x, 35, 35, 35, 35);
+        due.is("four are placed", x.count(2), 4);
+        due.is("late, in the last hour", x.late(3, 35), 0);
+        x.near(0, 1, true);
+        due.is("two can't share it", x.all(), BAD);
+        only(x, 0, 0, 35);
+        due.is("the other hour, without delay", x.all(), 0);
+        starts("the other hour", x, 0, 35, 35, 35);
     }
 
     private static void allKeepsFixed() {
