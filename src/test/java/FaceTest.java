@@ -32,6 +32,7 @@ public final class FaceTest {
         methods();
         fields();
         source();
+        noCallThrows();
         due.end();
     }
 
@@ -88,6 +89,51 @@ public final class FaceTest {
             due.yes(f + " is no static state",
                     !Modifier.isStatic(f.getModifiers()) || Modifier.isFinal(f.getModifiers()));
         }
+    }
+
+    /** Rule 7, also behind the 512th call; an exception would end this program with exit code 1. */
+    private static void noCallThrows() {
+        int[] numbers = {0, 1, 2, 3, 4, 5, -1, -2, 12, 35, 36, 37, 200, 100_001, Roads.LOW, Roads.HIGH};
+        int calls = 0;
+        for (int hours : new int[] {1, 5, 36}) {
+            ClosureHours x = Roads.road(hours, 2, 3, 1);
+            for (int a : numbers) {
+                for (int b : numbers) {
+                    callAll(x, a, b, (a + b) % 3 == 0);
+                    callAll(x, b, a, (a + b) % 5 == 0);
+                    calls += 48;
+                }
+            }
+            due.is("hours still", x.count(0), hours);
+        }
+        due.yes("calls: " + calls, calls > 512);
+    }
+
+    private static void callAll(ClosureHours x, int a, int b, boolean is) {
+        x.work(a, b);
+        x.near(a, b, is);
+        x.delay(a, b, b);
+        x.night(a, is);
+        x.event(a, b, is);
+        x.noise(a, b, a);
+        x.crew(a, b);
+        x.rest(a, b);
+        x.run(a);
+        x.all();
+        x.late(a, b);
+        x.moved(a);
+        x.start(a);
+        x.least(a);
+        x.act(a, b, a);
+        x.state(a);
+        x.notice(a, b);
+        x.rate(b);
+        x.paid(a);
+        x.open(b);
+        x.holds();
+        x.count(a);
+        x.may(a, b);
+        x.drop(b);
     }
 
     private static void source() throws IOException {

@@ -1,11 +1,10 @@
 /** Each promise of the document by itself: ordinary inputs, the edges it names, wrong inputs. */
 public final class PromiseTest {
-    private static final int BAD = ClosureHours.BAD;
-    private static final int NONE = ClosureHours.NONE;
-    private static final int LOW = Integer.MIN_VALUE;
-    private static final int HIGH = Integer.MAX_VALUE;
-    /** Numbers that are no work in an object of two works. */
-    private static final int[] NO_WORKS = {LOW, -2, -1, 2, 3, 4, HIGH};
+    private static final int BAD = Roads.BAD;
+    private static final int NONE = Roads.NONE;
+    private static final int LOW = Roads.LOW;
+    private static final int HIGH = Roads.HIGH;
+    private static final int[] NO_WORKS = Roads.NO_WORKS;
 
     private static final Due due = new Due();
 
@@ -46,14 +45,6 @@ public final class PromiseTest {
         holds();
         count();
         due.end();
-    }
-
-    /** Two works of two hours, near nothing, each of its own crew. */
-    private static ClosureHours two(int hours) {
-        ClosureHours x = new ClosureHours(hours);
-        x.work(2, 0);
-        x.work(2, 0);
-        return x;
     }
 
     private static void delays(ClosureHours x, int work, int... minutes) {
@@ -125,7 +116,7 @@ public final class PromiseTest {
     }
 
     private static void near() {
-        ClosureHours x = two(8);
+        ClosureHours x = Roads.two(8);
         for (int none : NO_WORKS) {
             due.no("near(0, none)", x.near(0, none, true));
             due.no("near(none, 1)", x.near(none, 1, true));
@@ -148,7 +139,7 @@ public final class PromiseTest {
     }
 
     private static void delay() {
-        ClosureHours x = two(4);
+        ClosureHours x = Roads.two(4);
         for (int none : NO_WORKS) {
             due.no("delay(none)", x.delay(none, 0, 1));
         }
@@ -253,7 +244,7 @@ public final class PromiseTest {
     }
 
     private static void crew() {
-        ClosureHours x = two(6);
+        ClosureHours x = Roads.two(6);
         for (int none : NO_WORKS) {
             due.no("crew(none)", x.crew(none, 0));
         }
@@ -319,7 +310,7 @@ public final class PromiseTest {
     }
 
     private static void runPlacesBest() {
-        ClosureHours x = two(6);
+        ClosureHours x = Roads.two(6);
         delays(x, 0, 9, 4, 3, 4, 3, 9);
         due.is("the least, of like ones the earliest", x.run(0), 1);
         due.is("its delay", x.least(0), 7);
@@ -372,7 +363,7 @@ public final class PromiseTest {
     }
 
     private static void runRefuses() {
-        ClosureHours x = two(6);
+        ClosureHours x = Roads.two(6);
         for (int none : NO_WORKS) {
             due.is("run(none)", x.run(none), NONE);
         }
@@ -402,7 +393,7 @@ public final class PromiseTest {
     }
 
     private static void drop() {
-        ClosureHours x = two(6);
+        ClosureHours x = Roads.two(6);
         for (int none : NO_WORKS) {
             due.no("drop(none)", x.drop(none));
         }
@@ -429,7 +420,7 @@ public final class PromiseTest {
     }
 
     private static void may() {
-        ClosureHours x = two(6);
+        ClosureHours x = Roads.two(6);
         for (int none : NO_WORKS) {
             due.no("may(none)", x.may(none, 0));
         }
@@ -453,7 +444,7 @@ public final class PromiseTest {
     }
 
     private static void allPlacesBest() {
-        ClosureHours x = two(4);
+        ClosureHours x = Roads.two(4);
         x.near(0, 1, true);
         delays(x, 0, 1, 1, 3, 3);
         delays(x, 1, 0, 0, 9, 9);
@@ -488,24 +479,14 @@ public final class PromiseTest {
         starts("places what was not placed", y, 0, 2, 4, 0);
     }
 
-    /** Only the hours that are named are left to a work. */
-    private static void only(ClosureHours x, int work, int... hours) {
-        for (int h = 0; h < x.count(0); h++) {
-            x.event(work, h, true);
-        }
-        for (int h : hours) {
-            x.event(work, h, false);
-        }
-    }
-
     private static void allBreaksTies() {
         for (int w = 0; w < 3; w++) {
             ClosureHours x = new ClosureHours(8);
             for (int i = 0; i < 4; i++) {
                 x.work(1, 0);
             }
-            only(x, w, 1, 2);
-            only(x, w + 1, 1, 5);
+            Roads.only(x, w, 1, 2);
+            Roads.only(x, w + 1, 1, 5);
             x.near(w, w + 1, true);
             due.is("like plans", x.all(), 0);
             due.is("work " + w + " begins first, though the next begins late", x.start(w), 1);
@@ -517,7 +498,7 @@ public final class PromiseTest {
         ClosureHours x = new ClosureHours(36);
         for (int w = 0; w < 4; w++) {
             x.work(1, 0);
-            only(x, w, 35);
+            Roads.only(x, w, 35);
         }
         due.is("all in the last hour, without delay", x.all(), 0);
         starts("all in the last hour", x, 35, 35, 35, 35);
@@ -525,13 +506,13 @@ public final class PromiseTest {
         due.is("late, in the last hour", x.late(3, 35), 0);
         x.near(0, 1, true);
         due.is("two can't share it", x.all(), BAD);
-        only(x, 0, 0, 35);
+        Roads.only(x, 0, 0, 35);
         due.is("the other hour, without delay", x.all(), 0);
         starts("the other hour", x, 0, 35, 35, 35);
     }
 
     private static void allKeepsFixed() {
-        ClosureHours x = two(6);
+        ClosureHours x = Roads.two(6);
         x.run(0);
         bring(x, 0, 3);
         delays(x, 0, 10, 10, 0, 0, 0, 0);
@@ -562,7 +543,7 @@ public final class PromiseTest {
 
     private static void allRefuses() {
         due.is("no works", new ClosureHours(5).all(), BAD);
-        ClosureHours x = two(3);
+        ClosureHours x = Roads.two(3);
         x.run(0);
         x.near(0, 1, true);
         bring(x, 0, 1);
@@ -614,7 +595,7 @@ public final class PromiseTest {
     }
 
     private static void lateBreaksTies() {
-        ClosureHours x = two(6);
+        ClosureHours x = Roads.two(6);
         x.near(0, 1, true);
         x.all();
         starts("all()", x, 0, 2);
@@ -634,7 +615,7 @@ public final class PromiseTest {
     }
 
     private static void lateRefuses() {
-        ClosureHours x = two(6);
+        ClosureHours x = Roads.two(6);
         due.is("none is placed", x.late(0, 0), BAD);
         x.run(0);
         due.is("one is not placed", x.late(0, 0), BAD);
@@ -663,7 +644,7 @@ public final class PromiseTest {
     }
 
     private static void moved() {
-        ClosureHours x = two(6);
+        ClosureHours x = Roads.two(6);
         due.is("none yet", x.moved(0), BAD);
         x.run(1);
         movedAre("run", x, 1);
@@ -693,7 +674,7 @@ public final class PromiseTest {
     }
 
     private static void start() {
-        ClosureHours x = two(6);
+        ClosureHours x = Roads.two(6);
         for (int none : NO_WORKS) {
             due.is("start(none)", x.start(none), BAD);
         }
@@ -739,7 +720,7 @@ public final class PromiseTest {
         for (int event = 0; event < 6; event++) {
             for (int state = 0; state < 5; state++) {
                 for (int person = 0; person < 3; person++) {
-                    ClosureHours x = two(6);
+                    ClosureHours x = Roads.two(6);
                     x.run(1);
                     bring(x, 1, state);
                     boolean his = by[event] == -1 || by[event] == person;
@@ -756,7 +737,7 @@ public final class PromiseTest {
     }
 
     private static void actElsewhere() {
-        ClosureHours x = two(6);
+        ClosureHours x = Roads.two(6);
         due.is("not placed", x.act(0, 0, 0), BAD);
         due.is("it stays PLANNED", x.state(0), 0);
         x.run(0);
@@ -778,14 +759,14 @@ public final class PromiseTest {
     }
 
     private static void state() {
-        ClosureHours x = two(6);
+        ClosureHours x = Roads.two(6);
         for (int none : NO_WORKS) {
             due.is("state(none)", x.state(none), BAD);
         }
         due.is("at first", x.state(0), 0);
         x.run(0);
         for (int s = 0; s < 5; s++) {
-            ClosureHours y = two(6);
+            ClosureHours y = Roads.two(6);
             y.run(1);
             bring(y, 1, s);
             due.is("state", y.state(1), s);
@@ -802,7 +783,7 @@ public final class PromiseTest {
     }
 
     private static void notice() {
-        ClosureHours x = two(6);
+        ClosureHours x = Roads.two(6);
         due.is("none yet", x.notice(0, 0), BAD);
         x.run(1);
         x.delay(0, 0, 1);
@@ -833,7 +814,7 @@ public final class PromiseTest {
     }
 
     private static void noticesBeyond() {
-        ClosureHours x = two(6);
+        ClosureHours x = Roads.two(6);
         for (int i = 0; i < 99; i++) {
             x.run(0);
             x.drop(0);
@@ -872,7 +853,7 @@ public final class PromiseTest {
     }
 
     private static void paid() {
-        ClosureHours x = two(6);
+        ClosureHours x = Roads.two(6);
         x.rate(1);
         for (int none : NO_WORKS) {
             due.is("paid(none)", x.paid(none), 0);
@@ -967,7 +948,7 @@ public final class PromiseTest {
     }
 
     private static void count() {
-        ClosureHours x = two(6);
+        ClosureHours x = Roads.two(6);
         x.work(1, 0);
         x.run(0);
         x.run(1);
