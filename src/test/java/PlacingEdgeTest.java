@@ -27,6 +27,7 @@ public final class PlacingEdgeTest {
         allPlacesAll();
         allLeastTogether();
         allLikeOnes();
+        allLikeOnesAtTheEnds();
         allOpenOrClosedAsItIs();
         allRulesOfOpenOrClosed();
         allJustFits();
@@ -375,6 +376,18 @@ public final class PlacingEdgeTest {
         late.delay(1, 34, 1);
         due.is("less delay goes before earlier", late.all(), 0);
         due.same("starts", Roads.starts(late), "1 35");
+    }
+
+    private static void allLikeOnesAtTheEnds() {
+        due.sentence("of like ones those whose first work begins earlier (the first hours and the last)");
+        ClosureHours next = Roads.road(36, 4, 1, 0);
+        Roads.only(next, 2, 34, 35);
+        Roads.only(next, 3, 0, 35);
+        next.near(2, 3, true);
+        next.delay(2, 34, 1);
+        next.delay(3, 0, 1);
+        due.is("35 and 0 is next behind 34 and 35", next.all(), 1);
+        due.same("starts", Roads.starts(next), "0 0 34 35");
         ClosureHours last = Roads.road(36, 4, 1, 0);
         for (int w = 0; w < 4; w++) {
             Roads.only(last, w, 35);
